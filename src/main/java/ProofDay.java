@@ -12,6 +12,8 @@ public final class ProofDay {
     private static final int SORTS = 3, MOST_KEEN = 9, SIXTEEN = 16;
     private static final int NULL = 1, INDEX = 2, CAST = 3, STORE = 4, SIZE = 5;
     private static final int[] HARD = {1, 3, 5};
+    private static final int LEAST_INT = 1 << 31;
+    private static final long LEAST_LONG = 1L << 63;
 
     private final Text[] texts;
     private final Plan plan;
@@ -343,7 +345,7 @@ public final class ProofDay {
 
     public long chance(int c, int line, int what) {
         if (!below(c, SIXTEEN + 1) || !below(line, plan.lines) || !below(what, 2)) {
-            return Long.MIN_VALUE - BAD;
+            return LEAST_LONG - BAD;
         }
         weighChances(c);
         return lowestTerm(line, what);
@@ -397,12 +399,12 @@ public final class ProofDay {
 
     public int get(int s, int form, int i) {
         if (!below(s, SHEETS) || !below(form, FORMS)) {
-            return Integer.MIN_VALUE;
+            return LEAST_INT;
         }
         int wrong = sheets[s].findingAt(form, i);
         if (wrong != 0) {
             finding = wrong;
-            return Integer.MIN_VALUE;
+            return LEAST_INT;
         }
         return sheets[s].items[i];
     }

@@ -534,7 +534,8 @@ public final class ProofDayAgainstModel {
             for (int there = 0; there < 1 << n; there++) {
                 int many = Integer.bitCount(there);
                 if (new Outcome(set.withEvents(chosen(set.events, there))).corrector(line) != null) {
-                    above = above.add(BigInteger.valueOf(c).pow(many).multiply(BigInteger.valueOf(16 - c).pow(n - many)));
+                    BigInteger come = BigInteger.valueOf(c).pow(many);
+                    above = above.add(come.multiply(BigInteger.valueOf(16 - c).pow(n - many)));
                 }
             }
             BigInteger below = BigInteger.valueOf(16).pow(n);
@@ -694,7 +695,7 @@ public final class ProofDayAgainstModel {
         int kind = draw.nextInt(40);
         if (kind == 0) return -1 - draw.nextInt(2);
         if (kind == 1) return most + 1 + draw.nextInt(2);
-        if (kind == 2) return draw.nextBoolean() ? Integer.MIN_VALUE + draw.nextInt(3) : Integer.MAX_VALUE - draw.nextInt(3);
+        if (kind == 2) return Integer.MAX_VALUE - 2 + draw.nextInt(6);
         return draw.nextInt(most + 1);
     }
 
@@ -782,8 +783,10 @@ public final class ProofDayAgainstModel {
             case 5 -> same("keens(" + reader + ")", x.keens(reader), m.keens(reader));
             case 6 -> same("kind(" + line + ")", x.kind(line), m.kind(line));
             case 7 -> same("ask(" + reader + ")", x.ask(reader), m.ask(reader));
-            case 8 -> same("chance(" + c + ", " + line + ", " + what + ")", x.chance(c, line, what), m.chance(c, line, what));
-            default -> same("days(" + seed + ", " + c + ", " + what + ")", x.days(seed, c, what), m.days(seed, c, what));
+            case 8 -> same("chance(" + c + ", " + line + ", " + what + ")",
+                x.chance(c, line, what), m.chance(c, line, what));
+            default -> same("days(" + seed + ", " + c + ", " + what + ")",
+                x.days(seed, c, what), m.days(seed, c, what));
         }
     }
 
@@ -799,9 +802,11 @@ public final class ProofDayAgainstModel {
         switch (draw.nextInt(12)) {
             case 0, 1 -> same("sheet(" + s + ", " + form + ", " + n + ")", x.sheet(s, form, n), m.sheet(s, form, n));
             case 2 -> same("lose(" + s + ")", x.lose(s), m.lose(s));
-            case 3, 4, 5 -> same("lay(" + s + ", " + form + ", " + i + ", " + v + ")", x.lay(s, form, i, v), m.lay(s, form, i, v));
+            case 3, 4, 5 -> same("lay(" + s + ", " + form + ", " + i + ", " + v + ")",
+                x.lay(s, form, i, v), m.lay(s, form, i, v));
             case 6, 7 -> same("get(" + s + ", " + form + ", " + i + ")", x.get(s, form, i), m.get(s, form, i));
-            case 8, 9 -> same("copy(" + s + ", " + i + ", " + t + ", " + j + ", " + n + ")", x.copy(s, i, t, j, n), m.copy(s, i, t, j, n));
+            case 8, 9 -> same("copy(" + s + ", " + i + ", " + t + ", " + j + ", " + n + ")",
+                x.copy(s, i, t, j, n), m.copy(s, i, t, j, n));
             case 10 -> same("write(" + s + ")", x.write(s), m.write(s));
             default -> same("read(" + s + ")", x.read(s), m.read(s));
         }
@@ -831,7 +836,7 @@ public final class ProofDayAgainstModel {
             told.setLength(0);
             new ProofDayAgainstModel(7919L * i + 1).run();
         }
-        System.out.println(wrong == 0 ? asked + " answers are as the model's" : wrong + " answers are not as the model's");
+        System.out.println(wrong == 0 ? asked + " answers are as the model's" : wrong + " are not as the model's");
         if (wrong != 0) {
             System.exit(1);
         }

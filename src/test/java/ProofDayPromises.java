@@ -70,6 +70,7 @@ public final class ProofDayPromises {
         p37Write();
         p38Count();
         p39Digest();
+        fullDay();
         System.out.println(wrong == 0 ? asked + " answers are as due" : wrong + " answers are not as due");
         if (wrong != 0) {
             System.exit(1);
@@ -305,6 +306,8 @@ public final class ProofDayPromises {
         due("read: none whole", x.read(2), 0);
         x.sheet(2, 1, 0);
         due("read: no items", x.read(2), 0);
+        x.sheet(2, 1, 3);
+        due("read: just one", x.read(2), 1);
         due("read: no finding yet", x.count(8), 0);
         due("read: bad", x.read(4), BAD);
         due("read: bad", x.read(-1), BAD);
@@ -406,6 +409,9 @@ public final class ProofDayPromises {
             due("done begins " + i, x.done(i, 0), begins[i]);
             due("done finds " + i, x.done(i, 1), finds[i]);
         }
+        due("done: just no such line", day("l4", "q9", "01;00").done(0, 0), NONE);
+        due("done: it took no minute", day("l4", "q9", "01;00").done(1, 0), 0);
+        due("done: just no such reader", day("l4", "q9", "10").done(0, 0), NONE);
         due("done: none such", x.done(6, 0), BAD);
         due("done: none such", x.done(-1, 0), BAD);
         due("done: what", x.done(0, 2), BAD);
@@ -574,6 +580,16 @@ public final class ProofDayPromises {
         y.event(0, 1, 0);
         due("hush: either helps", y.hush(NONE), 1);
         due("hush: the lesser", y.hush(0), 0);
+        y = day("l4;l5", "q9", "00;01");
+        y.event(0, 0, 0);
+        y.event(0, 4, 0);
+        y.event(0, 0, 1);
+        due("hush: the first and the last", y.hush(NONE), 2);
+        due("hush: the first and the last", y.hush(0), 0);
+        due("hush: the first and the last", y.hush(1), 2);
+        y.back();
+        y.event(0, 0, 0);
+        due("hush: two in one minute", y.hush(0) * 10 + y.hush(1), 2);
         due("hush: unread is not passed", day("l4", "", "").hush(NONE), 0);
     }
 
@@ -655,7 +671,7 @@ public final class ProofDayPromises {
     }
 
     private static void p29Ask() {
-        // Minute 0 tells 5 and more; minute 1 also 4 (tired 1, hard 3); minute 2 also 3 (tired 2, hard 1).
+        // Found are: line 0 in minute 0 by 5 and more, line 1 in minute 1 by 4, line 2 in minute 2 by 3 and more.
         ProofDay x = day("t4;d9;l5", "q5", "00;01;02");
         // Classes: behind 0: 4, 5; behind 1: {1..3} {4} {5..9}; never less than 5.
         due("ask: 5 at least, at once", x.ask(0), 0);
@@ -664,6 +680,14 @@ public final class ProofDayPromises {
         due("ask: behind 2", x.ask(0), 2);
         x.seen(23, 0, 1);
         due("ask: none left", x.ask(0), 0);
+        // Behind 0 {1..4} {5..9}, behind 1 {1..4} {5} {6..9}.
+        due("ask: 4 is less than 5", day("t4;t9", "q5", "00;01").ask(0), 1);
+        // The cough leaves all alike behind 0; behind 1 there are {1} {2..9}.
+        ProofDay y = day("l4", "q5", "00;00");
+        y.event(0, 0, 0);
+        due("ask: 8 is less than 9", y.ask(0), 1);
+        y.event(0, 0, 1);
+        due("ask: nothing tells", y.ask(0), 0);
         due("ask: bad", x.ask(1), BAD);
         due("ask: bad", x.ask(-1), BAD);
     }
@@ -977,5 +1001,39 @@ public final class ProofDayPromises {
         x.type(1, ';');
         due("digest: a fault", x.digest(), digestByCalls(x));
         due("digest: another one", x.digest() == before ? 1 : 0, 0);
+    }
+
+    /** Every text is full: ten lines, six readers, sixteen shifts, eight events. */
+    private static void fullDay() {
+        String shifts = "00;11;22;33;44;55;06;17;28;39;40;51;02;13;24;39";
+        ProofDay x = day("l1;l2;l3;l4;l5;l6;l7;l8;l9;t9", "q9;q9;q9;q9;q9;q1", shifts);
+        for (int i = 0; i < 8; i++) {
+            x.event(0, 3, 1);
+        }
+        due("full: lines", x.count(0), 10);
+        due("full: readers", x.count(1), 6);
+        due("full: shifts", x.count(2), 16);
+        due("full: marked at once", x.marked(0), 6);
+        due("full: marked", x.marked(1), 9);
+        due("full: marked late", x.marked(2), 10);
+        due("full: harm", x.harm(), 0);
+        due("full: chance", x.chance(15, 9, 0), 1);
+        x.undo(2);
+        x.undo(2);
+        x.undo(2);
+        due("full: passed", x.left(1), 512);
+        due("full: harm", x.harm(), 9);
+        due("full: eight coughs", x.hush(NONE), NONE);
+        due("full: chance above", x.chance(15, 9, 0), 1);
+        due("full: chance below", x.chance(15, 9, 1), 4294967296L);
+        due("full: more reader", x.more(0), 0);
+        due("full: more line", x.more(1), 9);
+        due("full: more harm", x.more(2), 0);
+        // Shift 39 in place 0 comes ahead of 33, whose line reader 1 finds as well.
+        due("full: turn first", x.turn(0), 0);
+        due("full: turn other", x.turn(1), 9);
+        due("full: turn harm", x.turn(2), 0);
+        due("full: worst", x.worst(), 9);
+        due("full: digest", x.digest(), digestByCalls(x));
     }
 }
