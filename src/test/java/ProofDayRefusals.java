@@ -56,10 +56,12 @@ public final class ProofDayRefusals {
             refusedItems(day);
             refusedCopies(day);
             questions(day);
+            questionsInTurn(day);
         }
         refusedOnSomeDay(some);
         refusedWhereFull(full);
         refusedWhereEmpty(empty);
+        refusedWhereOneIsEmpty();
         refusedWithFaults();
         System.out.println(wrong == 0 ? asked + " answers are as due" : wrong + " answers are not as due");
         if (wrong != 0) {
@@ -110,7 +112,10 @@ public final class ProofDayRefusals {
             "00;11;22;33;44;55;06;17;28;39;40;51;02;13;24;35");
         for (int i = 0; i < 8; i++) {
             x.event(i % 2, i % 6, i % 3);
-            x.seen(3 * i, i, i / 4);
+        }
+        // As it is, so that any other sighting in place of one of these would show.
+        for (int line = 2; line <= 9; line++) {
+            x.seen(23, line, x.margin(line, 0) == NONE ? 0 : 1);
         }
         return x;
     }
@@ -417,8 +422,11 @@ public final class ProofDayRefusals {
         }
         refused(day, "event(0, 0, 0)", FULL, x -> x.event(0, 0, 0));
         refused(day, "event(1, 5, 23)", FULL, x -> x.event(1, 5, 23));
-        refused(day, "seen(0, 0, 0)", FULL, x -> x.seen(0, 0, 0));
-        refused(day, "seen(23, 9, 1)", FULL, x -> x.seen(23, 9, 1));
+        for (int is = 0; is < 2; is++) {
+            int v = is;
+            refused(day, "seen(0, 0, " + v + ")", FULL, x -> x.seen(0, 0, v));
+            refused(day, "seen(23, 9, " + v + ")", FULL, x -> x.seen(23, 9, v));
+        }
         // read() is not refused there: none comes.
         for (int sheet = 0; sheet < 3; sheet++) {
             int s = sheet;
@@ -441,6 +449,27 @@ public final class ProofDayRefusals {
         refused(day, "keens(0)", BAD, x -> x.keens(0));
         refused(day, "ask(0)", BAD, x -> x.ask(0));
         refused(day, "done(0, 0)", BAD, x -> x.done(0, 0));
+    }
+
+    /** What is empty is refused, and what is not stays. */
+    private static void refusedWhereOneIsEmpty() {
+        for (int text = 0; text < 3; text++) {
+            int t = text;
+            Day wiped = new Day("a day without text " + t, () -> {
+                ProofDay x = someDay();
+                x.wipe(t);
+                return x;
+            });
+            refused(wiped, "undo(" + t + ")", NOT, x -> x.undo(t));
+        }
+        Day quiet = new Day("a day without events", () -> {
+            ProofDay x = someDay();
+            while (x.count(6) > 0) {
+                x.back();
+            }
+            return x;
+        });
+        refused(quiet, "back()", NOT, x -> x.back());
     }
 
     /** A text with a fault has none of its things, though its bytes are there. */
@@ -496,6 +525,27 @@ public final class ProofDayRefusals {
         for (int sheet = 0; sheet < 3; sheet++) {
             int s = sheet;
             asks(day, "get(" + s + ")", x -> x.get(s, s, LENGTHS[s] - 1));
+        }
+    }
+
+    /** What is answered doesn't hang on what was asked ahead of it. */
+    private static void questionsInTurn(Day day) {
+        List<Call> calls = List.of(x -> x.margin(0, 0), x -> x.night(0, 1), x -> x.marked(2), x -> x.harm(),
+            x -> x.worst(), x -> x.left(1));
+        List<Call> tries = List.of(x -> x.more(2), x -> x.late(), x -> x.turn(2), x -> x.hush(NONE), x -> x.never(),
+            x -> x.keens(0), x -> x.kind(0), x -> x.ask(0), x -> x.chance(5, 0, 0), x -> x.days(7, 12, 0));
+        List<Call> all = new ArrayList<>(calls);
+        all.addAll(tries);
+        long[] alone = new long[all.size()];
+        for (int i = 0; i < alone.length; i++) {
+            alone[i] = all.get(i).on(day.maker.get());
+        }
+        for (Call first : tries) {
+            ProofDay x = day.maker.get();
+            for (int i = 0; i < alone.length; i++) {
+                first.on(x);
+                due(day.name + ": question " + i + " behind another", all.get(i).on(x), alone[i]);
+            }
         }
     }
 }
